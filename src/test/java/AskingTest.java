@@ -64,6 +64,17 @@ public final class AskingTest {
         Make.document(y, 0, 0, Make.row(1, 2));
         y.flush();
         CHECK.same("39 each term once", y.like(0), 2);
+
+        QuarryIndex z = new QuarryIndex();
+        Make.flushed(z, 0);
+        Make.flushed(z, 199);
+        Make.document(z, 0, 0, Make.row(199));
+        Make.document(z, 0, 0, Make.row(0));
+        z.flush();
+        CHECK.same("39 the least term", z.like(0), 3);
+        CHECK.same("39 the greatest term", z.like(1), 2);
+        z.setMute(0, true);
+        CHECK.same("39 the least term, mute", z.like(0), -1);
     }
 
     private static void promise40Mate() {
@@ -109,6 +120,17 @@ public final class AskingTest {
         Make.document(x, 0, 0, Make.row(10, 2));
         x.flush();
         CHECK.same("40 most documents go before the fewest", x.mate(10), 2);
+
+        QuarryIndex y = new QuarryIndex();
+        Make.document(y, 0, 0, Make.row(5, 0), Make.row(0, 8), Make.row(199, 0));
+        Make.document(y, 0, 0, Make.row(8, 8), Make.row(8), Make.row(199, 5));
+        y.flush();
+        CHECK.same("40 a term that several fields have counts once", y.mate(5), 8);
+        CHECK.same("40 the least term may be told", y.mate(199), 5);
+        y.remove(1);
+        CHECK.same("40 the least term of several", y.mate(5), 0);
+        y.setMute(0, true);
+        CHECK.same("40 the least term, mute", y.mate(5), 8);
     }
 
     private static void promise41Cost() {
@@ -144,6 +166,12 @@ public final class AskingTest {
         CHECK.same("41 the term alone", x.cost(1), 3);
         x.compact();
         CHECK.same("41 less behind a compaction", x.cost(1), 1);
+        x.clear();
+        x.term(1, 1);
+        for (int node = 1; node < 30; node++) {
+            x.or(node - 1, 0);
+        }
+        CHECK.same("41 however deep", x.cost(29), 1);
     }
 
     private static void promise42ByAlias() {
@@ -172,6 +200,8 @@ public final class AskingTest {
         x.setMute(2, true);
         CHECK.same("42 a mute alias", x.byAlias(0), 0);
         CHECK.same("42 the alias stays", x.setAlias(1, -1), 2);
+        x.setAlias(9, 1);
+        CHECK.same("42 the first and the third one", x.byAlias(x.term(9, 7)), 2);
     }
 
     private static void promise43WouldScore() {
@@ -192,6 +222,11 @@ public final class AskingTest {
         CHECK.same("43 a term of both", x.wouldScore(1, 0), 86);
         CHECK.same("43 one in the buffer", x.wouldScore(1, 1), 100);
         CHECK.same("43 not found", x.wouldScore(0, 1), -1);
+        CHECK.same("43 the same again", x.wouldScore(0, 0), 147);
+        x.setAlias(1, 2);
+        CHECK.same("43 by the alias", x.wouldScore(0, 1), 100);
+        CHECK.same("43 by both", x.wouldScore(0, 0), 233);
+        x.setAlias(1, -1);
         CHECK.same("43 nothing is flushed", x.stateOf(1), 1);
         CHECK.same("43 nothing is changed", x.score(1, 0), 90);
         CHECK.same("43 nor counted", x.spread(2, 0), 1);
@@ -234,6 +269,8 @@ public final class AskingTest {
         CHECK.same("44 none any more", x.waste(), 0.0);
         Make.flushed(x, 1);
         CHECK.same("44 none of them", x.waste(), 0.0);
+        x.remove(3);
+        CHECK.same("44 the only one", x.waste(), 1.0);
     }
 
     /** Adds what the document tells, in its order, from the answers of the other calls. */
@@ -280,14 +317,14 @@ public final class AskingTest {
 
     private static void promise45Digest() {
         QuarryIndex x = new QuarryIndex();
-        for (int number = 0; number < 60; number++) {
+        for (int number = 0; number < 57; number++) {
             Make.document(x, number / 7, number % 8, Make.row(number % 5, number % 3), Make.row(number % 4, 1));
             if (number % 4 == 1) {
                 x.flush();
             }
         }
         x.remove(7);
-        x.remove(58);
+        x.remove(55);
         for (int term = 0; term < 6; term++) {
             x.term(term, 1 + term);
         }
@@ -304,6 +341,10 @@ public final class AskingTest {
         x.remove(3);
         x.compact();
         CHECK.same("45 behind a compaction", x.digest(), digestByCalls(x));
+        for (int number = 57; number < 60; number++) {
+            Make.flushed(x, number % 5);
+        }
+        CHECK.same("45 with sixty documents", x.digest(), digestByCalls(x));
         x.clear();
         CHECK.same("45 without NODES", x.digest(), digestByCalls(x));
         CHECK.same("45 it changes nothing", x.digest(), x.digest());

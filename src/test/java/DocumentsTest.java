@@ -131,7 +131,8 @@ public final class DocumentsTest {
         CHECK.same("6 it was", x.setMute(199, true), true);
         CHECK.same("6 it was, until now", x.setMute(199, false), true);
         CHECK.same("6 it is no more", x.setMute(199, false), false);
-        CHECK.same("6 another one", x.setMute(0, false), false);
+        CHECK.same("6 another one", x.setMute(0, true), false);
+        CHECK.same("6 the least one", x.setMute(0, false), true);
 
         Make.flushed(x, 5, 6);
         x.term(5, 1);

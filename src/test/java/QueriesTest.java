@@ -9,6 +9,7 @@ public final class QueriesTest {
         promise19Term();
         promise19TermByFields();
         promise19TermByAlias();
+        promise19TermAtTheEdges();
         promise20And();
         promise21Or();
         promise22Not();
@@ -92,6 +93,26 @@ public final class QueriesTest {
         scores("19 not the other way round", x, 1, 86, 100);
         x.setAlias(1, -1);
         scores("19 without the alias again", x, 0, 147, -1);
+    }
+
+    private static void promise19TermAtTheEdges() {
+        QuarryIndex x = new QuarryIndex();
+        Make.document(x, 0, 0, Make.row(0, 199));
+        x.flush();
+        x.term(0, 1);
+        x.term(199, 1);
+        CHECK.same("19 the least term is found", x.score(0, 0) > 0, true);
+        CHECK.same("19 the greatest term is found", x.score(1, 0), x.score(0, 0));
+        CHECK.same("19 both are near", x.score(x.near(0, 1, 1, true), 0), 2 * x.score(0, 0) + 100);
+        x.term(7, 1);
+        x.setAlias(7, 0);
+        CHECK.same("19 the least term as an alias", x.score(3, 0), x.score(0, 0));
+        x.setAlias(0, 199);
+        CHECK.same("19 the least term's alias", x.score(0, 0), 2 * x.score(1, 0));
+        x.setMute(0, true);
+        CHECK.same("19 the least term, mute", x.score(3, 0), -1);
+        x.setMute(199, true);
+        CHECK.same("19 the greatest term, mute", x.score(1, 0), -1);
     }
 
     private static void promise20And() {

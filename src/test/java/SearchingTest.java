@@ -202,5 +202,8 @@ public final class SearchingTest {
         CHECK.throwsIllegalArgument("38 width 0", () -> x.window(0, 0, 0, 0));
         CHECK.throwsIllegalArgument("38 width 13", () -> x.window(0, 0, 0, 13));
         CHECK.same("38 width 12", x.window(0, 0, 0, 12), 0);
+        Make.document(x, 0, 0, Make.row(5, 0));
+        x.term(0, 1);
+        CHECK.same("38 the least term", x.window(1, 1, 0, 1), 1);
     }
 }

@@ -181,6 +181,10 @@ public final class SegmentsTest {
         x.setMute(7, true);
         CHECK.same("17 a mute one", x.spread(7, 0), 1);
         CHECK.same("17 the greatest term", x.spread(199, 2), 0);
+        Make.document(x, 0, 0, Make.row(0), Make.row(), Make.row(199, 0));
+        x.flush();
+        CHECK.same("17 the least term", x.spread(0, 0), 1);
+        CHECK.same("17 the greatest term of one", x.spread(199, 2), 1);
     }
 
     private static void promise18Rare() {
@@ -211,5 +215,12 @@ public final class SegmentsTest {
         y.flush();
         CHECK.same("18 ROOT of 610000", y.rare(5, 0), 781);
         CHECK.same("18 ROOT of 610000 / 61", y.rare(4, 0), 100);
+
+        QuarryIndex z = new QuarryIndex();
+        for (int number = 0; number < 56; number++) {
+            Make.document(z, 0, 0);
+        }
+        z.flush();
+        CHECK.same("18 ROOT of 570000", z.rare(0, 0), 754);
     }
 }
