@@ -1018,9 +1018,6 @@ public final class QuarryIndex {
 
         int dropAll() {
             int many = count;
-            for (int number = 0; number < rows.length; number++) {
-                rows[number] = null;
-            }
             count = 0;
             return many;
         }
@@ -1271,9 +1268,6 @@ public final class QuarryIndex {
         int count;
 
         void dropAll() {
-            for (int place = 0; place < rows.length; place++) {
-                rows[place] = null;
-            }
             count = 0;
         }
 
