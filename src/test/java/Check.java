@@ -23,6 +23,10 @@ final class Check {
         }
     }
 
+    int looked() {
+        return looked;
+    }
+
     void throwsIllegalArgument(String what, Call call) {
         same(what, outcome(call), "throws.IllegalArgumentException");
     }

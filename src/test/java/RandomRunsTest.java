@@ -1,22 +1,25 @@
 import java.util.Random;
 
-/** Long runs of calls, right and wrong ones, of which each answer is compared with that of the Reference. */
+/** Runs of 512 calls, right and wrong ones, of which each answer is compared with that of the Reference. */
 public final class RandomRunsTest {
     private static final int CALLS = 512;
 
     private final Check check = new Check("RandomRunsTest");
     private final Random random;
     private final int termCount;
+    private final int wordCount;
+    private int calls;
     private QuarryIndex engine = new QuarryIndex();
     private Reference reference = new Reference();
 
     private RandomRunsTest(long seed) {
         random = new Random(seed);
         termCount = 3 + random.nextInt(12);
+        wordCount = 2 + random.nextInt(12);
     }
 
     public static void main(String[] args) {
-        int runs = args.length > 0 ? Integer.parseInt(args[0]) : 250;
+        int runs = args.length > 0 ? Integer.parseInt(args[0]) : 1000;
         Check check = new Check("RandomRunsTest");
         for (int seed = 1; seed <= runs; seed++) {
             RandomRunsTest run = new RandomRunsTest(seed);
@@ -27,19 +30,24 @@ public final class RandomRunsTest {
     }
 
     private String firstWrong() {
-        for (int call = 0; call < CALLS; call++) {
+        for (int step = 0; calls < CALLS && step < 10 * CALLS; step++) {
             String wrong = random.nextInt(3) == 0 ? askAny() : tellAny();
-            if (wrong == null && call % 64 == 63) {
+            if (wrong == null && random.nextInt(40) == 0) {
                 wrong = compare("digest()", () -> engine.digest(), () -> reference.digest());
             }
             if (wrong != null) {
-                return "call " + call + ": " + wrong;
+                return "call " + calls + ": " + wrong;
             }
         }
         return null;
     }
 
+    /** Nothing is compared behind the last call for which an object is used. */
     private String compare(String what, Check.Call got, Check.Call due) {
+        if (calls >= CALLS) {
+            return null;
+        }
+        calls++;
         Object gotAnswer = plain(Check.outcome(got));
         Object dueAnswer = plain(Check.outcome(due));
         return gotAnswer.equals(dueAnswer) ? null : what + " answered " + gotAnswer + ", due is " + dueAnswer;
@@ -95,7 +103,7 @@ public final class RandomRunsTest {
         int date = someDate();
         int kind = about(8);
         String wrong = compare("open", () -> engine.open(date, kind), () -> reference.open(date, kind));
-        int many = random.nextInt(random.nextInt(8) == 0 ? 40 : 12);
+        int many = random.nextInt(random.nextInt(8) == 0 ? 40 : wordCount);
         for (int index = 0; index < many && wrong == null; index++) {
             int field = random.nextInt(4) == 0 ? about(3) : random.nextInt(2);
             int term = someTerm();
