@@ -1,3 +1,5 @@
+import java.util.List;
+
 /** Every exception of the document: each clause of it is refused, nothing beside it is, and nothing changes. */
 final class Refusals {
     private static final String ARGUMENT = Edges.ARGUMENT;
@@ -63,8 +65,10 @@ final class Refusals {
                 Edges.wrong(x -> x.open(0, 0)), Edges.right());
         edges.refusal(2, STATE, "60 have got a number", Stock::lastOpened,
                 Edges.wrong(x -> x.open(0, 0)), Edges.right(QuarryIndex::close));
-        edges.namedFirst(2, ARGUMENT, Stock::opened, x -> x.open(10000, 0), x -> x.open(0, 8));
-        edges.namedFirst(2, ARGUMENT, Stock::sixty, x -> x.open(-1, 0), x -> x.open(0, -1));
+        for (Edges.Recipe state : List.<Edges.Recipe>of(Stock::opened, Stock::lastOpened, Stock::sixty)) {
+            edges.namedFirst(2, ARGUMENT, state, x -> x.open(-1, 0), x -> x.open(10000, 0), x -> x.open(0, -1),
+                    x -> x.open(0, 8));
+        }
 
         range(3, ARGUMENT, "field is not 0 to 2", Stock::opened, 0, 2,
                 (x, field) -> x.write(field == 2 ? 1 : field, 0));
@@ -80,8 +84,10 @@ final class Refusals {
                 Edges.right(x -> x.write(0, 0), x -> x.write(1, 0)));
         edges.refusal(3, STATE, "the FIELD has 12", Stock::openedFull,
                 Edges.wrong(x -> x.write(0, 0), x -> x.write(1, 0), x -> x.write(2, 0)), Edges.right());
-        edges.namedFirst(3, ARGUMENT, Stock::small, x -> x.write(3, 0), x -> x.write(0, 200));
-        edges.namedFirst(3, ARGUMENT, Stock::openedFull, x -> x.write(3, 0), x -> x.write(2, 200));
+        for (Edges.Recipe state : List.<Edges.Recipe>of(Stock::small, Stock::openedFull, Stock::sixty)) {
+            edges.namedFirst(3, ARGUMENT, state, x -> x.write(-1, 0), x -> x.write(3, 0), x -> x.write(2, -1),
+                    x -> x.write(0, 200));
+        }
 
         edges.refusal(4, STATE, "none is OPEN", Stock::small, Edges.wrong(QuarryIndex::close),
                 Edges.right(x -> x.open(0, 0) + x.close()));

@@ -88,7 +88,7 @@ final class Stock {
 
     static void thirty(QuarryIndex x) {
         twentyNine(x);
-        x.dated(6, 9);
+        x.dated(0, 9);
     }
 
     /** An exception is told by a short sign: most of the places that are asked for are none. */
@@ -104,6 +104,7 @@ final class Stock {
         told.add(askedOfNodes(Edges.made(state)));
         told.add(askedOfTerms(Edges.made(state)));
         told.add(askedOfAliases(Edges.made(state)));
+        told.add(closed(Edges.made(state)));
         told.add(writtenOn(Edges.made(state)));
         return told;
     }
@@ -166,13 +167,19 @@ final class Stock {
         return told.toString();
     }
 
-    /** Whether a document is OPEN, and what stands in it, is seen by writing on and closing it. */
+    /** How long the FIELDS of the OPEN document are is seen by writing on. */
     private static String writtenOn(QuarryIndex x) {
         StringBuilder told = new StringBuilder();
         for (int field = 0; field < 3; field++) {
             int field1 = field;
             told.append(' ').append(outcome(() -> x.write(field1, 7)));
         }
+        return told.append(closed(x)).toString();
+    }
+
+    /** Whether a document is OPEN, and what stands in it, is seen by closing it. */
+    private static String closed(QuarryIndex x) {
+        StringBuilder told = new StringBuilder();
         told.append(' ').append(outcome(x::close)).append(' ').append(x.flush());
         int last = x.documents() - 1;
         for (int place = 0; place < 36; place++) {
