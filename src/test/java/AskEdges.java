@@ -74,7 +74,8 @@ final class AskEdges {
     }
 
     private void ofLikeSums() {
-        edges.sentence(39, "with the greatest sum of RARE(t, f), over all TERMS t that are not MUTE and FIELDS f", () -> {
+        edges.sentence(39, "with the greatest sum of RARE(t, f), over all TERMS t that are not MUTE and FIELDS f",
+                () -> {
             // RARE(1, 0) is the ROOT of 60000 / 5, 109; of 2, 3 and 4 that of 60000 / 3, 141
             QuarryIndex x = flushed(Make.row(1, 2, 3), Make.row(1, 2), Make.row(1), Make.row(3, 4), Make.row(1, 4));
             edges.same("a sum of 250", x.like(0), 1);
@@ -243,8 +244,8 @@ final class AskEdges {
     }
 
     private void ofByAlias() {
-        edges.sentence(42, "Returns how many of the DOCUMENTS that it finds now it would find no more without all ALIASES",
-                () -> {
+        edges.sentence(42, "Returns how many of the DOCUMENTS that it finds now it would find no more without all"
+                + " ALIASES", () -> {
             QuarryIndex x = flushed(Make.row(1), Make.row(2), Make.row(1, 2), Make.row(3), Make.row(4, 2));
             x.term(1, 1);
             x.term(3, 1);
@@ -374,9 +375,21 @@ final class AskEdges {
             edges.same("a new object", x.digest(), due.longValue());
         });
         edges.sentence(45, "Returns d", () -> {
-            Edges.Recipe[] states = {Stock::empty, Stock::small, Stock::opened, Stock::sixty, Stock::thirty,
-                x -> { Stock.small(x); x.compact(); }, x -> { Stock.small(x); x.clear(); },
-                x -> { Stock.small(x); removeAll(x); }};
+            QuarryIndex x = Edges.made(Stock::small);
+            long due = Digests.byCalls(Stock::small);
+            edges.same("d", x.digest(), due);
+            edges.same("again", x.digest(), due);
+            x.remove(0);
+            edges.same("another one behind a change", x.digest() == due, false);
+        });
+        edges.sentence(45, "for each v in this order: documents(), and of each stateOf(); segments(), and of each"
+                + " tierOf(), sizeOf(); nodes(), and of each found(), cost(), and score() of each DOCUMENT; results(),"
+                + " and of each resultAt(), scoreAt(); ofKind() of 0 to 7; like() of each DOCUMENT", () -> {
+            Edges.Recipe[] states = {Stock::empty, Stock::small, Stock::opened, Stock::openedFull, Stock::lastOpened,
+                Stock::sixty, Stock::thirty, x -> { Stock.small(x); x.compact(); },
+                x -> { Stock.small(x); x.clear(); }, x -> { Stock.small(x); removeAll(x); },
+                x -> { Stock.small(x); x.flush(); x.search(x.kind(255)); },
+                x -> { Stock.sixty(x); x.flush(); x.search(x.kind(255)); }};
             for (int state = 0; state < states.length; state++) {
                 edges.same("state " + state, Edges.made(states[state]).digest(), Digests.byCalls(states[state]));
             }

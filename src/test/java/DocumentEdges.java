@@ -277,6 +277,23 @@ final class DocumentEdges {
                 edges.same("no more, again", x.setMute(term, false), false);
             }
         });
+        edges.sentence(6, "whether it is MUTE from now on", () -> {
+            QuarryIndex x = new QuarryIndex();
+            x.setMute(0, true);
+            Make.flushed(x, 0, 199);
+            x.term(0, 1);
+            x.term(199, 1);
+            edges.same("MUTE ahead of its first DOCUMENT", x.found(0), 0);
+            edges.same("another TERM", x.found(1), 1);
+            x.setMute(0, false);
+            edges.same("no more", x.found(0), 1);
+            x.search(1);
+            x.setMute(199, true);
+            edges.same("MUTE behind a search, which stays", x.results(), 1);
+            edges.same("from now on", x.found(1), 0);
+            x.setMute(199, true);
+            edges.same("said twice", x.found(1), 0);
+        });
         edges.sentence(6, "it has its place in a FIELD", () -> {
             QuarryIndex x = new QuarryIndex();
             x.setMute(3, true);
@@ -458,6 +475,19 @@ final class DocumentEdges {
                 edges.same("1 again", x.score(node, 0), 90);
             }
         });
+        edges.sentence(8, "its WEIGHT from now on", () -> {
+            QuarryIndex x = new QuarryIndex();
+            Make.flushed(x, 5);
+            x.term(5, 1);
+            int[] weights = {9, 1, 5, 4, 4};
+            for (int weight : weights) {
+                x.setWeight(0, weight);
+                edges.same("WEIGHT " + weight, x.score(0, 0), weight * 90);
+            }
+            x.setWeight(1, 9);
+            x.setWeight(2, 9);
+            edges.same("those of the other FIELDS", x.score(0, 0), 4 * 90);
+        });
         edges.sentence(8, "Returns the one before", () -> {
             QuarryIndex x = new QuarryIndex();
             int before = 1;
@@ -506,6 +536,16 @@ final class DocumentEdges {
             x.compact();
             edges.same("GONE and nowhere", x.stateOf(1), 0);
             edges.same("beside it", x.stateOf(0), 2);
+        });
+        edges.sentence(11, "a place, from 0 on", () -> {
+            QuarryIndex x = new QuarryIndex();
+            Make.document(x, 0, 0, Make.row(4, 5), Make.row(6));
+            edges.same("the place 0", x.termAt(0, 0, 0), 4);
+            edges.same("the place 1", x.termAt(0, 0, 1), 5);
+            edges.refused("the place 2", Edges.BOUNDS, x, y -> y.termAt(0, 0, 2));
+            edges.refused("the place ahead of 0", Edges.BOUNDS, x, y -> y.termAt(0, 0, -1));
+            edges.refused("the place 1 of another FIELD", Edges.BOUNDS, x, y -> y.termAt(0, 1, 1));
+            edges.refused("the place 0 of an empty FIELD", Edges.BOUNDS, x, y -> y.termAt(0, 2, 0));
         });
         edges.sentence(11, "Returns the TERM there", () -> {
             QuarryIndex x = new QuarryIndex();

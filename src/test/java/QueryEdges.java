@@ -465,6 +465,24 @@ final class QueryEdges {
             edges.same("both of the first two", x.found(x.most(0, 2, 2)), 1);
             edges.same("one of the first two", x.found(x.most(0, 2, 1)), 2);
         });
+        edges.sentence(27, "how many these are, one behind the other by their numbers", () -> {
+            QuarryIndex x = new QuarryIndex();
+            for (int kind = 0; kind < 6; kind++) {
+                Make.document(x, 0, kind);
+                x.kind(1 << kind);
+            }
+            x.flush();
+            // the document k is found by the NODE k alone
+            for (int first = 0; first < 6; first++) {
+                for (int many = 2; many <= 4 && first + many <= 6; many++) {
+                    int node = x.most(first, many, 1);
+                    for (int document = 0; document < 6; document++) {
+                        int due = document >= first && document < first + many ? 0 : -1;
+                        edges.same(many + " from " + first + ", document " + document, x.score(node, document), due);
+                    }
+                }
+            }
+        });
         edges.sentence(27, "with the sum of the SCORES of those that do", () -> {
             QuarryIndex x = two();
             scores("one of three", x, x.most(0, 3, 1), 147 + 86, 100 + 122);

@@ -305,7 +305,8 @@ final class Refusals {
     }
 
     private void ofWindow() {
-        range(38, BOUNDS, "there is no such DOCUMENT", Stock::small, 0, 6, (x, document) -> x.window(document, 0, 0, 1));
+        range(38, BOUNDS, "there is no such DOCUMENT", Stock::small, 0, 6,
+                (x, document) -> x.window(document, 0, 0, 1));
         range(38, BOUNDS, "there is no such DOCUMENT", Stock::opened, 0, 6,
                 (x, document) -> x.window(document, 0, 2, 1));
         range(38, BOUNDS, "NODE", Stock::small, 0, 9, (x, node) -> x.window(0, node, 0, 1));

@@ -183,6 +183,15 @@ final class SearchEdges {
             edges.same("the last place", x.resultAt(3), 0);
             edges.refused("behind it", Edges.BOUNDS, x, y -> y.resultAt(4));
         });
+        edges.sentence(34, "a place among the RESULTS, from 0 on", () -> {
+            QuarryIndex x = Edges.made(Stock::sixty);
+            x.flush();
+            x.search(x.kind(255));
+            edges.same("the last place of 57", x.resultAt(56), 0);
+            edges.same("the first place of 57", x.resultAt(0), 1);
+            edges.refused("behind the last place", Edges.BOUNDS, x, y -> y.resultAt(57));
+            edges.refused("ahead of the first place", Edges.BOUNDS, x, y -> y.resultAt(-1));
+        });
         edges.sentence(35, "Returns its SCORE as it was found", () -> {
             QuarryIndex x = four();
             x.search(0);

@@ -273,6 +273,20 @@ final class SegmentEdges {
                 edges.same("SEGMENT " + segment, x.tierOf(segment), due[segment]);
             }
         });
+        edges.sentence(15, "a SEGMENT, from 0 on, the oldest first", () -> {
+            QuarryIndex x = flushes(4);
+            edges.same("the oldest one", x.tierOf(0), 1);
+            edges.same("the last one", x.tierOf(1), 0);
+            edges.refused("behind the last one", Edges.BOUNDS, x, y -> y.tierOf(2));
+            x.compact();
+            edges.same("the only one", x.tierOf(0), 1);
+            edges.refused("no more there", Edges.BOUNDS, x, y -> y.tierOf(1));
+            for (int number = 0; number < 4; number++) {
+                x.remove(number);
+            }
+            x.compact();
+            edges.refused("none any more", Edges.BOUNDS, x, y -> y.tierOf(0));
+        });
         edges.sentence(16, "Returns how many DOCUMENTS lie in it, GONE or not", () -> {
             QuarryIndex x = flushes(4);
             edges.same("the oldest one", x.sizeOf(0), 3);
