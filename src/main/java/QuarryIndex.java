@@ -1192,7 +1192,7 @@ public final class QuarryIndex {
                 }
                 int ownCount = row.countOf(own);
                 int aliasCount = row.countOf(alias);
-                isFound |= ownCount > 0 || aliasCount > 0;
+                isFound = isFound || ownCount > 0 || aliasCount > 0;
                 sum += taste(own, ownCount, row.length, field) + taste(alias, aliasCount, row.length, field);
             }
             return isFound ? sum : NOT_FOUND;
